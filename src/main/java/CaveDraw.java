@@ -892,7 +892,7 @@ public final class CaveDraw {
         private final int[] ahead = new int[MOST_POINTS * MOST_SEQUENCE];
         private final int[] drawn = new int[MOST_POINTS];
         private final int[] taken = new int[MOST_POINTS];
-        private final int[] mostFromStep = new int[MOST_SEQUENCE + 1];
+        private final int[] mostFromStep = new int[MOST_SEQUENCE];
         private final int[] trial = new int[MOST_SEQUENCE];
         private final int[] best = new int[MOST_SEQUENCE];
         private int length;

@@ -38,6 +38,7 @@ public final class PromiseTests {
 
     private static void runActions(TestKit kit) {
         kit.test("15: draw", PromiseTests::draw);
+        kit.test("15: draw, whole columns", PromiseTests::drawWholeColumns);
         kit.test("15: draw refuses", PromiseTests::drawRefuses);
         kit.test("16: drawByOrder", PromiseTests::drawByOrder);
         kit.test("16: drawByOrder of nothing", PromiseTests::drawByOrderOfNothing);
@@ -376,6 +377,26 @@ public final class PromiseTests {
         failsWithoutPoint((z, p) -> z.draw(p));
     }
 
+    private static void drawWholeColumns() {
+        int[][] due = {{9, 8, 8, 7, 6, 6, 5, 5, 5, 4, 4}, {1, 2, 2, 3, 4, 4, 5, 6, 6, 6, NONE}};
+        CaveDraw x = TestKit.loaded("D129192817263524;112213241536;");
+        for (int i = 0; i < 11; i++) {
+            for (int p = 0; p < 2; p++) {
+                TestKit.equal(x.gradeAhead(p, x.remaining(p)), NONE);
+                if (due[p][i] != NONE) {
+                    TestKit.equal(x.draw(p), due[p][i]);
+                }
+            }
+        }
+        TestKit.equal(x.remaining(0) + x.remaining(1), 0);
+        // The last column of the greatest grid.
+        CaveDraw y = TestKit.loaded("D449;;;;;;;;;;;;;;;111213141516;");
+        for (int grade = 1; grade <= 6; grade++) {
+            TestKit.equal(y.draw(15), grade);
+            TestKit.equal(y.sliceCount(15), 6 - grade);
+        }
+    }
+
     private static void drawRefuses() {
         CaveDraw x = TestKit.loaded("D13195;;93;");
         TestKit.fails(TestKit.STATE, () -> x.draw(1));
@@ -625,6 +646,10 @@ public final class PromiseTests {
         CaveDraw z = TestKit.loaded("D441;;;;;;;;;;;;;;11;;");
         z.draw(14);
         TestKit.equal(z.blockers(14), (1 << 10) + (1 << 13) + (1 << 15));
+        // The drawpoint 0 blocks too.
+        CaveDraw v = TestKit.loaded("D121;11;");
+        v.draw(1);
+        TestKit.equal(v.blockers(1), 1);
         failsWithoutPoint((w, p) -> w.blockers(p));
     }
 
@@ -796,6 +821,8 @@ public final class PromiseTests {
         bestIs(TestKit.loaded("D22915;15;15;15;"), 0, 1, 2, 15);
         bestIs(TestKit.loaded("D12910;20;"), 0, 1, 1, 0);
         bestIs(TestKit.loaded("D1291524;24;"), 0, 0, 0, 1, 17);
+        bestIs(TestKit.loaded("D12999;91;"), 0, 0, 0, 0, 36);
+        bestIs(TestKit.loaded("D12999;95;"), 0, 0, 0, 27);
         StringBuilder great = new StringBuilder("D449");
         for (int p = 0; p < 16; p++) {
             great.append("9").append(p == 15 ? 4 : 3).append(';');
@@ -813,6 +840,12 @@ public final class PromiseTests {
         x.draw(0);
         bestIs(x, 1, 0, 10);
         bestIs(x, 1, 0, 1, 0, 20);
+        // The bound counts anew in each sequence that is tried.
+        CaveDraw w = TestKit.loaded("D131;91;99;");
+        bestIs(w, 1, 2, 10);
+        bestIs(w, 1, 2, 2, 19);
+        bestIs(w, NONE, NONE, NONE, NONE, NONE);
+        bestIs(TestKit.loaded("D12111;1219;"), 0, 1, 1, 12);
         // A bound that stops all: 0 has drawn one more and 1 has nothing.
         CaveDraw y = TestKit.loaded("D12199;;");
         bestIs(y, 0, 9);
