@@ -362,8 +362,9 @@ public final class CaveDraw {
         /** How many buckets the neighbours let p draw, whatever its column holds. */
         int room(int p, int[] drawn, int limit) {
             int room = Integer.MAX_VALUE;
-            for (int i = 0; i < degree(p); i++) {
-                room = Math.min(room, limit + drawn[neighbour(p, i)] - drawn[p]);
+            for (int i = 0; i < neighbourCount[p]; i++) {
+                int q = neighbours[p * SIDES + i];
+                room = Math.min(room, limit + drawn[q] - drawn[p]);
             }
             return room;
         }
@@ -837,7 +838,8 @@ public final class CaveDraw {
         private static boolean succeeds(Grid grid, Cave cave, int command) {
             int kind = command / 1000;
             if (kind == 6) {
-                return drawsByOrder(grid, cave, command % 1000);
+                int n = command % 1000;
+                return n >= 1 && n <= MOST_BY_ORDER && cave.takeByOrder(grid, n) == n;
             }
             int p = command / 10 % 100;
             int last = command % 10;
@@ -877,13 +879,6 @@ public final class CaveDraw {
             }
             cave.turnHung(p);
             return true;
-        }
-
-        private static boolean drawsByOrder(Grid grid, Cave cave, int n) {
-            if (n < 1 || n > MOST_BY_ORDER) {
-                return false;
-            }
-            return cave.takeByOrder(grid, n) == n;
         }
     }
 
@@ -929,7 +924,7 @@ public final class CaveDraw {
             }
         }
 
-        /** No bucket deeper than the step can come at a step: so much can the steps from it on give. */
+        /** At a step no bucket comes from deeper than the step; so the steps from it on are bounded. */
         private void boundSteps(Grid grid) {
             Arrays.fill(mostFromStep, 0);
             int most = 0;

@@ -546,6 +546,12 @@ public final class PromiseTests {
         TestKit.fails(TestKit.STATE, () -> y.setBound(1));
         y.draw(1);
         TestKit.equal(y.setBound(1), 2);
+        CaveDraw great = TestKit.loaded("D449;;;;;;;;;;;;;;;91;");
+        great.draw(15);
+        TestKit.equal(great.setBound(1), 9);
+        great.setBound(2);
+        great.draw(15);
+        TestKit.fails(TestKit.STATE, () -> great.setBound(1));
     }
 
     private static void undo() {
@@ -846,6 +852,13 @@ public final class PromiseTests {
         bestIs(w, 1, 2, 2, 19);
         bestIs(w, NONE, NONE, NONE, NONE, NONE);
         bestIs(TestKit.loaded("D12111;1219;"), 0, 1, 1, 12);
+        bestIs(TestKit.loaded("D12110;99;"), 0, 1, 9);
+        // 0 is ready only behind 2, and 1 may go first.
+        CaveDraw v = TestKit.loaded("D2211019;1011;11;10;");
+        v.draw(0);
+        v.draw(1);
+        v.draw(3);
+        bestIs(v, 2, 0, 10);
         // A bound that stops all: 0 has drawn one more and 1 has nothing.
         CaveDraw y = TestKit.loaded("D12199;;");
         bestIs(y, 0, 9);
@@ -872,6 +885,8 @@ public final class PromiseTests {
         TestKit.equal(y.origins(9, 999999999), 1);
         TestKit.equal(y.origins(9, 0), 2);
         TestKit.equal(y.origins(8, 0), 2 + 4);
+        CaveDraw great = TestKit.loaded("D44217;;;;;;;;;;;;;;;17;");
+        TestKit.equal(great.origins(1, 7), 1 + (1 << 15));
     }
 
     private static void originsRefuses() {
