@@ -924,7 +924,7 @@ public final class CaveDraw {
             }
         }
 
-        /** At a step no bucket comes from deeper than the step; so the steps from it on are bounded. */
+        /** A bucket deeper than the step cannot come at it, which bounds what the steps can give. */
         private void boundSteps(Grid grid) {
             Arrays.fill(mostFromStep, 0);
             int most = 0;
