@@ -924,7 +924,7 @@ public final class CaveDraw {
             }
         }
 
-        /** A bucket deeper than the step cannot come at it, which bounds what the steps can give. */
+        /** A bucket deeper than the step cannot come at it: that bounds what the steps can give. */
         private void boundSteps(Grid grid) {
             Arrays.fill(mostFromStep, 0);
             int most = 0;

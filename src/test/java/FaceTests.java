@@ -7,17 +7,22 @@ import java.util.TreeSet;
 
 /** The face is the document's, and nothing else of the class can be reached from outside. */
 public final class FaceTests {
+    /** X, A and S are IndexOutOfBounds-, IllegalArgument- and IllegalStateException. */
     private static final String[] METHODS = {
-        "int append(int)", "int clearText()", "int errorPosition()", "int load()",
-        "int pointCount()", "int bound()", "int drawn(int)", "int remaining(int)",
-        "int sliceCount(int)", "int gradeAhead(int,int)", "boolean isHung(int)",
-        "int totalBuckets()", "int totalGrade()", "int draw(int)", "int drawByOrder(int)",
-        "int hang(int)", "int release(int)", "int addSlice(int,int,int)", "int setBound(int)",
-        "int undo()", "boolean isReady(int)", "int blockers(int)", "int slack(int)",
-        "int nextByOrder()", "int orderAhead(int)", "int bucketsToWaste(int,int)",
-        "int bucketsFor(int,int)", "int mostFrom(int)", "int bestSequence(int,int)",
-        "int origins(int,int)", "int runScript(int,long)", "int simulate(long,int)",
-        "int save(int)", "int restore(int)"
+        "int append(int) throws AS", "int clearText()", "int errorPosition()",
+        "int load() throws S", "int pointCount()", "int bound()", "int drawn(int) throws X",
+        "int remaining(int) throws X", "int sliceCount(int) throws X",
+        "int gradeAhead(int,int) throws XA", "boolean isHung(int) throws X",
+        "int totalBuckets()", "int totalGrade()", "int draw(int) throws XS",
+        "int drawByOrder(int) throws A", "int hang(int) throws XS",
+        "int release(int) throws XS", "int addSlice(int,int,int) throws XAS",
+        "int setBound(int) throws AS", "int undo() throws S", "boolean isReady(int) throws X",
+        "int blockers(int) throws X", "int slack(int) throws X", "int nextByOrder()",
+        "int orderAhead(int) throws A", "int bucketsToWaste(int,int) throws XA",
+        "int bucketsFor(int,int) throws XA", "int mostFrom(int) throws X",
+        "int bestSequence(int,int) throws A", "int origins(int,int) throws A",
+        "int runScript(int,long) throws A", "int simulate(long,int) throws A",
+        "int save(int) throws X", "int restore(int) throws XS"
     };
 
     public static void main(String[] args) {
@@ -62,7 +67,22 @@ public final class FaceTests {
         for (Class<?> type : m.getParameterTypes()) {
             types.append(types.length() == 0 ? "" : ",").append(type.getName());
         }
-        return m.getReturnType().getName() + " " + m.getName() + "(" + types + ")";
+        String thrown = "";
+        for (Class<?> type : m.getExceptionTypes()) {
+            thrown += letter(type);
+        }
+        String face = m.getReturnType().getName() + " " + m.getName() + "(" + types + ")";
+        return thrown.isEmpty() ? face : face + " throws " + thrown;
+    }
+
+    private static String letter(Class<?> type) {
+        if (type == TestKit.INDEX) {
+            return "X";
+        }
+        if (type == TestKit.ARGUMENT) {
+            return "A";
+        }
+        return type == TestKit.STATE ? "S" : "?";
     }
 
     private static void nothingElseIsOpen() {

@@ -1042,7 +1042,8 @@ public final class PromiseTests {
     }
 
     private static void simulate() {
-        String[] texts = {"D2329193;9594;35;9298;91;96;", "D111919293949596;", "D441;15;;;;;;;;;;;;;;;"};
+        String[] texts = {"D2329193;9594;35;9298;91;96;", "D111919293949596;",
+            "D441;15;;;;;;;;;;;;;;;"};
         for (String text : texts) {
             for (int m = 1; m <= 100; m += 33) {
                 CaveDraw x = TestKit.loaded(text);

@@ -20,7 +20,7 @@ final class TestKit {
             System.out.println("FAILED " + name + ": " + t);
             for (StackTraceElement e : t.getStackTrace()) {
                 if (e.getFileName() != null && e.getFileName().endsWith("Tests.java")) {
-                    System.out.println("    at line " + e.getLineNumber() + " of " + e.getFileName());
+                    System.out.println("    at " + e.getFileName() + ":" + e.getLineNumber());
                 }
             }
         }
