@@ -546,6 +546,14 @@ public final class ActionBoundaryTests extends BoundarySuite {
             equal(x.undo(), 0);
             fails(STATE, x::undo);
         });
+        holds("in the smallest and in the greatest grid", () -> {
+            CaveDraw x = single();
+            equal(x.setBound(9), 1);
+            equal(x.bound(), 9);
+            CaveDraw y = great();
+            equal(y.setBound(1), 2);
+            equal(y.bound(), 1);
+        });
         sentence("Returns the previous bound.");
         holds("2 of a new object, then the one that was set", () -> {
             CaveDraw x = new CaveDraw();

@@ -503,6 +503,29 @@ public final class CaveBoundaryTests extends BoundarySuite {
             equal(greatestColumn().gradeAhead(0, 53), 6);
             equal(greatestColumn().gradeAhead(0, 54), NONE);
         });
+        holds("no bucket is behind the last one where slices have vanished", () -> {
+            CaveDraw x = loaded("D119111213141516;");
+            for (int left = 5; left >= 0; left--) {
+                x.draw(0);
+                for (int i = left; i < 8; i++) {
+                    equal(x.gradeAhead(0, i), NONE);
+                }
+            }
+        });
+        holds("no bucket is behind the last one where load took slices away", () -> {
+            CaveDraw x = loaded("D119111213141516;");
+            x.clearText();
+            TestKit.put(x, "D11117;");
+            x.load();
+            equal(x.gradeAhead(0, 0), 7);
+            equal(x.gradeAhead(0, 1), NONE);
+        });
+        holds("the last drawpoint of the greatest grid", () -> {
+            CaveDraw x = loaded("D441" + ";".repeat(15) + "1728;");
+            equal(x.gradeAhead(15, 0), 7);
+            equal(x.gradeAhead(15, 2), 8);
+            equal(x.gradeAhead(15, 3), NONE);
+        });
         holds("the last bucket of a slice and the first of the next", () -> {
             equal(greatestColumn().gradeAhead(0, 8), 1);
             equal(greatestColumn().gradeAhead(0, 9), 2);

@@ -391,6 +391,14 @@ public final class QuestionBoundaryTests extends BoundarySuite {
                 x.draw(0);
             }
         });
+        holds("every drawpoint has its own", () -> {
+            CaveDraw x = loaded("D22119;2910;3920;4930;");
+            equal(x.bucketsToWaste(0, 1), NONE);
+            for (int p = 1; p < 4; p++) {
+                equal(x.bucketsToWaste(p, 1), p + 1);
+            }
+            equal(loaded("D441" + ";".repeat(15) + "2910;").bucketsToWaste(15, 9), 2);
+        });
         holds("a hung drawpoint has its waste too", () -> {
             CaveDraw x = loaded("D1113910;");
             x.hang(0);
@@ -522,6 +530,16 @@ public final class QuestionBoundaryTests extends BoundarySuite {
             equal(x.isReady(0), false);
             equal(x.mostFrom(0), 1);
         });
+        holds("53 where the greatest column has one bucket less", () -> {
+            CaveDraw x = greatestColumn();
+            x.draw(0);
+            equal(x.mostFrom(0), 53);
+        });
+        holds("the last drawpoint of the greatest grid", () -> {
+            CaveDraw x = loaded(alike(4, 4, 1, "15"));
+            equal(x.mostFrom(15), 1);
+            equal(loaded(alike(4, 4, 2, "")).mostFrom(15), 0);
+        });
         holds("54 of the greatest column, alone and with neighbours", () -> {
             equal(greatestColumn().mostFrom(0), 54);
             equal(loaded(alike(2, 4, 1, FULL)).mostFrom(0), 54);
@@ -562,6 +580,21 @@ public final class QuestionBoundaryTests extends BoundarySuite {
             x.draw(0);
             bestIs(x, 1, 2);
             bestIs(x, 1, 0, 11);
+        });
+        holds("the bound counts anew for each sequence that is tried", () -> {
+            // Every sequence that begins with 1 is tried before the best ones, with 2 alone.
+            CaveDraw x = loaded("D132;91;99;");
+            bestIs(x, 2, 2, 18);
+            bestIs(x, 1, 2, 2, 19);
+            bestIs(x, 1, 2, 2, 2, 28);
+        });
+        holds("a rich bucket behind two that open the way", () -> {
+            // 0 has drawn 3 more than 1 and 2, which hinder it both.
+            CaveDraw x = loaded("D2233019;95;12;;");
+            drawTimes(x, 0, 3);
+            bestIs(x, 1, 1, 10);
+            bestIs(x, 1, 2, 0, 16);
+            bestIs(x, 1, 1, 2, 0, 21);
         });
         holds("what is hung is not drawn", () -> {
             CaveDraw x = loaded("D13999;92;91;");
