@@ -359,9 +359,9 @@ public final class CaveDraw {
             return neighbours[p * SIDES + i];
         }
 
-        /** How many buckets the neighbours let p draw, whatever its column holds. */
+        /** How many buckets the neighbours let p draw, up to the most that a column can hold. */
         int room(int p, int[] drawn, int limit) {
-            int room = Integer.MAX_VALUE;
+            int room = MOST_IN_COLUMN;
             for (int i = 0; i < neighbourCount[p]; i++) {
                 int q = neighbours[p * SIDES + i];
                 room = Math.min(room, limit + drawn[q] - drawn[p]);

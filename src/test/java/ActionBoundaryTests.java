@@ -184,8 +184,25 @@ public final class ActionBoundaryTests extends BoundarySuite {
     }
 
     private void partsOfTheState() {
-        sentence("the state, which consists of the columns, the drawn numbers, the bound, the hung"
-                + " drawpoints and the sums of buckets and grades.");
+        sentence("The methods in the section \"actions\" change the state, which consists of the"
+                + " columns, the drawn numbers, the bound, the hung drawpoints and the sums of"
+                + " buckets and grades.");
+        holds("each of them changes what it names, and nothing else", () -> {
+            CaveDraw x = loaded("D12215;16;");
+            equal(Looks.cave(x), "2 points, bound 2, drawn 0/0 0:1/5 0:1/6");
+            x.addSlice(0, 2, 9);
+            equal(Looks.cave(x), "2 points, bound 2, drawn 0/0 0:2/599 0:1/6");
+            x.hang(1);
+            equal(Looks.cave(x), "2 points, bound 2, drawn 0/0 0:2/599 !0:1/6");
+            x.draw(0);
+            equal(Looks.cave(x), "2 points, bound 2, drawn 1/5 1:1/99 !0:1/6");
+            x.setBound(1);
+            equal(Looks.cave(x), "2 points, bound 1, drawn 1/5 1:1/99 !0:1/6");
+            x.release(1);
+            equal(Looks.cave(x), "2 points, bound 1, drawn 1/5 1:1/99 0:1/6");
+            x.drawByOrder(2);
+            equal(Looks.cave(x), "2 points, bound 1, drawn 3/20 2:1/9 1:0/");
+        });
         holds("undo gives all of them back", () -> {
             CaveDraw x = open();
             String[] before = new String[6];

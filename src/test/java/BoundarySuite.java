@@ -1,6 +1,11 @@
+import java.util.Map;
+import java.util.Set;
+import java.util.TreeMap;
+import java.util.TreeSet;
+
 /**
- * Tests of the sentences of the document that name a boundary. The name of a test tells the
- * promise (or the part of the description), the sentence, and the case of it that is tested.
+ * Tests of the sentences of the document. The name of a test tells the promise (or the part of the
+ * document), the sentence, and the case of it that is tested.
  */
 abstract class BoundarySuite {
     static final int NONE = CaveDraw.NONE;
@@ -23,6 +28,8 @@ abstract class BoundarySuite {
     }
 
     private final TestKit kit = new TestKit();
+    private final Map<String, Set<String>> quoted = new TreeMap<>();
+    private boolean isListing;
     private String promise = "";
     private String sentence = "";
 
@@ -42,7 +49,19 @@ abstract class BoundarySuite {
     }
 
     final void holds(String what, TestKit.Body body) {
-        kit.test(promise + " | " + sentence + " | " + what, body);
+        if (isListing) {
+            quoted.computeIfAbsent(promise, p -> new TreeSet<>()).add(sentence);
+        } else {
+            kit.test(promise + " | " + sentence + " | " + what, body);
+        }
+    }
+
+    /** The sentences that have a test here, by their promise; no test is run. */
+    final Map<String, Set<String>> quotes() {
+        isListing = true;
+        run();
+        isListing = false;
+        return quoted;
     }
 
     /** Two tests: that the call throws what is due, and that it changes nothing. */

@@ -623,8 +623,9 @@ public final class CaveBoundaryTests extends BoundarySuite {
     }
 
     private void looking() {
-        promise("6 to 14");
-        sentence("Nothing is promised beyond the answers and state changes described above");
+        promise("Not promised");
+        sentence("Nothing is promised beyond the answers and state changes described above, and"
+                + " nothing about an object after its 512th call.");
         changesNothing("pointCount()", BoundarySuite::used, x -> x.pointCount());
         changesNothing("bound()", BoundarySuite::used, x -> x.bound());
         changesNothing("drawn(0)", BoundarySuite::used, x -> x.drawn(0));

@@ -39,7 +39,7 @@ public final class ExceptionBoundaryTests extends BoundarySuite {
     }
 
     private void constant() {
-        promise("The public face");
+        promise("The constants");
         sentence("`NONE = -9`: There is no such result.");
         holds("it is -9", () -> equal(CaveDraw.NONE, -9));
         holds("it is what the methods answer", () -> {

@@ -276,10 +276,6 @@ public final class ModelTests {
     }
 
     private void askFeasible(int p) {
-        // SlowCave tries all draws, so it is asked where there are few.
-        if (slow.drawCount() > 4000) {
-            return;
-        }
         int k = dice.about(1, dice.below(4) == 0 ? 54 : 6);
         same("bucketsFor " + p + " " + k, () -> fast.bucketsFor(p, k), () -> slow.bucketsFor(p, k));
         same("mostFrom " + p, () -> fast.mostFrom(p), () -> slow.mostFrom(p));

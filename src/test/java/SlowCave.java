@@ -13,6 +13,8 @@ import java.util.regex.Pattern;
  */
 final class SlowCave {
     static final int NONE = -9;
+    /** Of how many draws all are tried, to find what is feasible. */
+    private static final long MOST_TRIED = 4000;
 
     private static final class State {
         final List<List<int[]>> columns = new ArrayList<>();
@@ -380,7 +382,7 @@ final class SlowCave {
     }
 
     /** How many different draws there are if no neighbour hinders another. */
-    long drawCount() {
+    private long drawCount() {
         long product = 1;
         for (int p = 0; p < points(); p++) {
             product *= 1 + now.left(p);
@@ -411,15 +413,45 @@ final class SlowCave {
         return fewest;
     }
 
+    /** Draws a bucket from p and before it only what must be drawn before it; false if it can't. */
+    private boolean force(State s, int p) {
+        if (s.hung[p] || s.columns.get(p).isEmpty()) {
+            return false;
+        }
+        while (blockSet(s, p) != 0) {
+            if (!force(s, Integer.numberOfTrailingZeros(blockSet(s, p)))) {
+                return false;
+            }
+        }
+        s.take(p);
+        return true;
+    }
+
+    private int forced(int p, int k) {
+        State s = now.copy();
+        for (int i = 0; i < k; i++) {
+            if (!force(s, p)) {
+                return NONE;
+            }
+        }
+        return s.buckets - now.buckets;
+    }
+
     int bucketsFor(int p, int k) {
         point(p);
         range(k, 1, 54);
-        return fewest(p).getOrDefault(k, NONE);
+        return drawCount() > MOST_TRIED ? forced(p, k) : fewest(p).getOrDefault(k, NONE);
     }
 
     int mostFrom(int p) {
         point(p);
         int most = 0;
+        if (drawCount() > MOST_TRIED) {
+            while (forced(p, most + 1) != NONE) {
+                most++;
+            }
+            return most;
+        }
         for (int k : fewest(p).keySet()) {
             most = Math.max(most, k);
         }
